@@ -619,17 +619,15 @@ public final class PassiveChecks {
             return size > 0 ? 0 : END_ROW;
         }
 
-        /** The outermost loop around a statement, or the statement itself if there is none. */
-        int outermost(int row) {
-            int found = row;
-            int owner = at(row).parent;
+        boolean isInLoop(Statement s) {
+            int owner = s.parent;
             for (int n = 0; n < STATEMENTS && owner >= 0; n++) {
                 if (at(owner).isLoop()) {
-                    found = owner;
+                    return true;
                 }
                 owner = at(owner).parent;
             }
-            return found;
+            return false;
         }
 
         int addTerm(int begin, int length) {
@@ -1234,13 +1232,12 @@ public final class PassiveChecks {
                 notes[END_ROW * STATES + state] = 1 << ENDING;
                 notes[THROWN_ROW * STATES + state] = 1 << THROWING;
             }
-            int low;
-            for (int high = program.size - 1; high >= 0; high = low - 1) {
-                low = program.outermost(high);
-                boolean mayGrow = which == 0 && program.at(low).isLoop();
-                boolean again = true;
+            for (int row = program.size - 1; row >= 0; row--) {
+                Statement s = program.at(row);
+                boolean mayGrow = which == 0 && s.isLoop();
+                boolean again = !program.isInLoop(s);
                 for (int n = 0; n < SWEEPS && again; n++) {
-                    again = sweep(low, high, which) && mayGrow;
+                    again = sweep(row, s.isLoop() ? s.end : row, which) && mayGrow;
                 }
             }
             System.arraycopy(notes, program.startRow() * STATES, outcomes, which * STATES, STATES);

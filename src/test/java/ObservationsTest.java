@@ -60,6 +60,8 @@ public final class ObservationsTest {
         starts(x, 4, 96, 2);
         Check.change(x, "s|&&=a1=b2&=c3=d0 &&=a1=b3&=c3=d1", 1);
         starts(x, 2, 108, 1);
+        Check.change(x, "s&!a&!c&!d<b2", 1);
+        starts(x, 2, 0, 1);
         x.forget();
         Check.change(x, "i<a2(t)(kb)", 3);
         x.sees(17, 1);
@@ -82,6 +84,7 @@ public final class ObservationsTest {
     private static void afterChanges() {
         PassiveChecks x = Check.with("ka", 1);
         x.sees(0, 1);
+        Check.due("ask()", x.ask(), 1);
         starts(x, 64, 0, 1);
         Check.change(x, "k<b2", 1);
         starts(x, 128, 32, 0);

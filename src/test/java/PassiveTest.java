@@ -4,12 +4,15 @@ public final class PassiveTest {
 
     private static PassiveChecks form(String program, int statements, int[] versions, int equalities, int linear) {
         PassiveChecks x = Check.with(program, statements);
-        for (int v = 0; v < 4; v++) {
-            Check.due("versions(" + v + ")", x.versions(v), versions[v]);
+        Check.due("equalities() on a new object", Check.with(program, statements).equalities(), equalities);
+        Check.due("linear() on a new object", Check.with(program, statements).linear(), linear);
+        for (int again = 0; again < 2; again++) {
+            for (int v = 0; v < 4; v++) {
+                Check.due("versions(" + v + ")", x.versions(v), versions[v]);
+            }
+            Check.due("equalities()", x.equalities(), equalities);
+            Check.due("linear()", x.linear(), linear);
         }
-        Check.due("equalities()", x.equalities(), equalities);
-        Check.due("linear()", x.linear(), linear);
-        Check.due("linear() again", x.linear(), linear);
         return x;
     }
 
@@ -54,6 +57,10 @@ public final class PassiveTest {
         form("y(ia(y(b1 t)(b2 t))(b3))(hb)hb", 10, of(0, 6, 0, 0), 2, 20);
         form("t y(t)(a1)", 4, of(0, 0, 0, 0), 0, 1);
         form("y(ia(t)())()y(ia(t)())()", 6, of(0, 0, 0, 0), 0, 8);
+        form("y(ib(a1 t)(t))()y(t)(ka)", 8, of(2, 0, 0, 0), 2, 17);
+        form("y(ia(t)(ib(a1 t)(t)))(ka)", 8, of(2, 0, 0, 0), 3, 21);
+        form("y(ia(t)(c1 y(t)(b1)))(kb)", 8, of(0, 2, 2, 0), 4, 24);
+        form("y(w1 1(c1 y(t)(b1)) t)(kb)", 8, of(0, 2, 2, 0), 0, 15);
     }
 
     private static void loops() {
@@ -95,12 +102,25 @@ public final class PassiveTest {
         Check.due("linear()", x.linear(), 1 + 1 + 12 + 1);
     }
 
+    private static void otherPrograms() {
+        PassiveChecks x = form("y(ia(t)(b1))(b2)", 5, of(0, 3, 0, 0), 2, 14);
+        Check.change(x, "", 0);
+        Check.due("copied()", x.copied(), 1);
+        Check.due("versions(1)", x.versions(1), 0);
+        Check.due("linear()", x.linear(), 0);
+        Check.due("equalities()", x.equalities(), 0);
+        Check.due("undo()", x.undo(), 1);
+        Check.due("copied()", x.copied(), 9);
+        Check.due("linear()", x.linear(), 14);
+    }
+
     public static void main(String[] args) {
         sequences();
         choices();
         tries();
         loops();
         copying();
+        otherPrograms();
         Check.finish();
     }
 }

@@ -157,6 +157,32 @@ public final class TextsTest {
         Check.due("back(0)", x.back(0), 11);
     }
 
+    /** What was read before must not show in what is read next. */
+    private static void readingAgain() {
+        PassiveChecks x = new PassiveChecks();
+        Check.change(x, "w11(w11(", -18);
+        x.clear();
+        Check.change(x, "w11(w11())", 2);
+        Check.change(x, "y(y(", -14);
+        x.clear();
+        Check.change(x, "t", 1);
+        Check.change(x, "t)", -11);
+        x.clear();
+        Check.change(x, "w1 1(ha)", 2);
+        Check.due("loop(0, 1)", x.loop(0, 1), 1);
+        Check.change(x, "w!a 1()", 1);
+        Check.due("loop(0, 1)", x.loop(0, 1), 0);
+        Check.due("ends(1, 64, 0, -1)", x.ends(1, 64, 0, -1), 1);
+        for (int n = 0; n < 24; n++) {
+            Check.change(x, "w0a()pbc1", 2);
+            Check.type(x, "d");
+            Check.due("invariant(0)", x.invariant(0), 1);
+        }
+        Check.due("loop(0, 2)", x.loop(0, 2), 192);
+        Check.due("wrong(0, 2, 1)", x.wrong(0, 2, 1), 0);
+        Check.due("wrong(0, 2, 0)", x.wrong(0, 2, 0), 64);
+    }
+
     private static void term(PassiveChecks x, String text, int answer) {
         Check.type(x, text);
         Check.due("invariant(0) of " + text, x.invariant(0), answer);
@@ -258,6 +284,7 @@ public final class TextsTest {
         errorsOfPrograms();
         limitsOfPrograms();
         programs();
+        readingAgain();
         invariants();
         longInvariants();
         undoing();
