@@ -2,11 +2,18 @@
 final class Check {
     private static final int TOLD = 50;
 
+    private static String sentence = "";
     private static String where = "";
     private static int calls;
     private static int wrong;
 
     private Check() { }
+
+    /** The sentence of the document that the calls from here on test; it is told with each wrong answer. */
+    static void sentence(String words) {
+        sentence = words + ": ";
+        where = "";
+    }
 
     static void in(String place) {
         where = place;
@@ -19,7 +26,7 @@ final class Check {
         }
         wrong++;
         if (wrong <= TOLD) {
-            System.out.println(where + ": " + call + " answered " + got + ", due is " + want);
+            System.out.println(sentence + where + ": " + call + " answered " + got + ", due is " + want);
         }
     }
 
@@ -42,6 +49,20 @@ final class Check {
         in(program);
         type(x, program);
         due("program()", x.program(), answer);
+    }
+
+    /** Types a term, and makes it the invariant of a loop. */
+    static void invariant(PassiveChecks x, int loop, String term, int answer) {
+        type(x, term);
+        due("invariant(" + loop + ") of " + term, x.invariant(loop), answer);
+    }
+
+    /** That the present program is this text. */
+    static void told(PassiveChecks x, String text) {
+        due("told(-1) for " + text, x.told(-1), text.length());
+        for (int i = 0; i < text.length(); i++) {
+            due("told(" + i + ") for " + text, x.told(i), text.charAt(i));
+        }
     }
 
     static void finish() {
