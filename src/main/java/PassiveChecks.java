@@ -33,15 +33,16 @@ public final class PassiveChecks {
     private static final int ASSIGNMENT = 'v';
 
     /** The bits of what can happen: bits 0 to 15 are failures at the checks. */
-    private static final int ENDING = 16, THROWING = 17, LEAVING = 18;
+    private static final int ENDING = 16, THROWING = 17;
+    /** A set of states is four words of 64 bits. */
+    private static final int WORDS = 4, WORD = 64;
 
     /** The rows behind those of the statements: where runs are when they are not before a statement. */
     private static final int END_ROW = STATEMENTS, THROWN_ROW = END_ROW + 1;
     /** At the end of a loop's block; and, in a cut run, behind the first check of a loop. */
     private static final int BACK_ROW = THROWN_ROW + 1, HEAD_ROW = BACK_ROW + LOOPS;
     private static final int ROWS = HEAD_ROW + LOOPS;
-    /** No fixed point takes nearly as many sweeps: each sweep but the last adds a bit to some row. */
-    private static final int SWEEPS = 1000000;
+    private static final int PLACES = ROWS * STATES;
 
     private final Text typed;
     private final Text present;
@@ -264,8 +265,8 @@ public final class PassiveChecks {
         if (!parsed.hasLoop(l) || !isFlag(what)) {
             return BAD;
         }
-        int rounds = runs.shrink(l);
-        return what == 0 ? runs.statesKept(l) : rounds;
+        runs.prepareLoop(l);
+        return what == 0 ? runs.kept[l] : runs.rounds[l];
     }
 
     private static boolean isFlag(int number) {
@@ -617,17 +618,6 @@ public final class PassiveChecks {
         /** The row in which a run of the whole program begins. */
         int startRow() {
             return size > 0 ? 0 : END_ROW;
-        }
-
-        boolean isInLoop(Statement s) {
-            int owner = s.parent;
-            for (int n = 0; n < STATEMENTS && owner >= 0; n++) {
-                if (at(owner).isLoop()) {
-                    return true;
-                }
-                owner = at(owner).parent;
-            }
-            return false;
         }
 
         int addTerm(int begin, int length) {
@@ -1181,30 +1171,353 @@ public final class PassiveChecks {
         }
     }
 
-    /** Finds what can happen: backward for all states at once, or forward from one state. */
-    private static final class Runs {
+    /** Runs, forward, from place to place. */
+    private static final class Walk {
+        private static final int NOWHERE = -1;
+        private static final int CLOSED = Integer.MAX_VALUE;
+
+        private final Program program;
+        private final Steps steps;
+        /** For each place that is met its number, from 1; and the lowest number that it leads back to, or CLOSED. */
+        private final int[] number;
+        private final int[] low;
+        /** The place from which it was met; and the place below it on the stack of those that are not closed. */
+        private final int[] parent;
+        private final int[] below;
+        /** The bits of what can happen from the place; the row is shared with the cut runs. */
+        private final long[] outcome;
+        private int met;
+        private int top;
+        /** The state and kind of the runs whose places are marked as met, or NOWHERE. */
+        private int marked;
+
+        Walk(Program source, Steps ofRuns, long[] notes) {
+            program = source;
+            steps = ofRuns;
+            number = new int[PLACES];
+            low = new int[PLACES];
+            parent = new int[PLACES];
+            below = new int[PLACES];
+            outcome = notes;
+            marked = NOWHERE;
+        }
+
+        void drop() {
+            marked = NOWHERE;
+        }
+
+        private void clear() {
+            Arrays.fill(number, 0, program.size * STATES, 0);
+            Arrays.fill(number, END_ROW * STATES, PLACES, 0);
+            met = 0;
+            top = NOWHERE;
+            marked = NOWHERE;
+        }
+
+        /** Puts what can happen in runs from each state. */
+        void findOutcomes(int[] into) {
+            clear();
+            for (int state = 0; state < STATES; state++) {
+                int place = program.startRow() * STATES + state;
+                goFrom(place);
+                into[state] = (int) outcome[place];
+            }
+        }
+
+        /** Depth first, since places that lead to one another in a circle have the same outcomes (Tarjan). */
+        private void goFrom(int place) {
+            if (number[place] != 0) {
+                return;
+            }
+            open(place, NOWHERE);
+            int here = place;
+            for (int n = 0; n < 2 * PLACES && here != NOWHERE; n++) {
+                int failed = steps.find(here / STATES, here % STATES, 0);
+                int next = firstNotMet();
+                if (next == NOWHERE) {
+                    finish(here, failed);
+                    here = parent[here];
+                } else {
+                    open(next, here);
+                    here = next;
+                }
+            }
+        }
+
+        private int firstNotMet() {
+            for (int i = 0; i < steps.found; i++) {
+                if (number[steps.places[i]] == 0) {
+                    return steps.places[i];
+                }
+            }
+            return NOWHERE;
+        }
+
+        private void open(int place, int from) {
+            met++;
+            number[place] = met;
+            low[place] = met;
+            outcome[place] = 0;
+            parent[place] = from;
+            below[place] = top;
+            top = place;
+        }
+
+        private void finish(int place, int failed) {
+            long bits = ownOutcome(place / STATES, failed);
+            int lowest = number[place];
+            for (int i = 0; i < steps.found; i++) {
+                bits |= outcome[steps.places[i]];
+                lowest = Math.min(lowest, low[steps.places[i]]);
+            }
+            outcome[place] = bits;
+            low[place] = lowest;
+            if (lowest == number[place]) {
+                close(place);
+            }
+        }
+
+        private static long ownOutcome(int row, int failed) {
+            if (failed >= 0) {
+                return 1L << failed;
+            }
+            if (row == END_ROW) {
+                return 1L << ENDING;
+            }
+            return row == THROWN_ROW ? 1L << THROWING : 0;
+        }
+
+        private void close(int first) {
+            for (int n = 0; n < PLACES && top != NOWHERE; n++) {
+                int place = top;
+                top = below[place];
+                low[place] = CLOSED;
+                outcome[place] = outcome[first];
+                if (place == first) {
+                    return;
+                }
+            }
+        }
+
+        /** Marks the places that runs from one state can reach. */
+        void mark(int cut, int state) {
+            int which = cut * STATES + state;
+            if (marked == which) {
+                return;
+            }
+            clear();
+            int waiting = program.startRow() * STATES + (state & (STATES - 1));
+            number[waiting] = 1;
+            below[waiting] = NOWHERE;
+            for (int n = 0; n < PLACES && waiting != NOWHERE; n++) {
+                int here = waiting;
+                waiting = below[here];
+                steps.find(here / STATES, here % STATES, cut);
+                for (int i = 0; i < steps.found; i++) {
+                    int there = steps.places[i];
+                    if (number[there] == 0) {
+                        number[there] = 1;
+                        below[there] = waiting;
+                        waiting = there;
+                    }
+                }
+            }
+            marked = which;
+        }
+
+        boolean isMarked(int row, int state) {
+            return number[row * STATES + state] != 0;
+        }
+    }
+
+    /** Cut runs, backward: they never go back, so one sweep from the last row to the first finds all. */
+    private static final class CutRuns {
         private final Program program;
         private final Values values;
         private final Steps steps;
-        /** A number for each place: going backward, the bits of what can happen from it; forward, see search. */
-        private final int[] notes;
-        /** The bits for the states in which the program begins, of runs and then of cut runs. */
-        private final int[] outcomes;
-        private final boolean[] known;
+        /** For each place the bits of what can happen from it, or of the states in which a block can end. */
+        private final long[] notes;
+
+        CutRuns(Program source, Values ofTerms, Steps ofRuns, long[] shared) {
+            program = source;
+            values = ofTerms;
+            steps = ofRuns;
+            notes = shared;
+        }
+
+        private void clear() {
+            Arrays.fill(notes, 0, program.size * STATES, 0);
+            Arrays.fill(notes, END_ROW * STATES, PLACES, 0);
+        }
+
+        /** Puts what can happen in cut runs from each state. */
+        void findOutcomes(int[] into) {
+            clear();
+            for (int state = 0; state < STATES; state++) {
+                notes[END_ROW * STATES + state] = 1L << ENDING;
+                notes[THROWN_ROW * STATES + state] = 1L << THROWING;
+            }
+            for (int l = 0; l < program.loops; l++) {
+                noteSecondCheck(BACK_ROW + l);
+            }
+            sweep(0, program.size - 1, true);
+            for (int state = 0; state < STATES; state++) {
+                into[state] = (int) notes[program.startRow() * STATES + state];
+            }
+        }
+
+        /** Puts in which states a loop's block can end, a bit for each, from the states that enter the block. */
+        void findEnds(int l, long[] into) {
+            clear();
+            Statement loop = program.loopStatement(l);
+            int behind = (BACK_ROW + l) * STATES;
+            for (int word = 0; word < WORDS; word++) {
+                for (int state = 0; state < STATES; state++) {
+                    notes[behind + state] = state / WORD == word ? 1L << (state % WORD) : 0;
+                }
+                sweep(program.loopRow(l) + 1, loop.end, false);
+                for (int state = 0; state < STATES; state++) {
+                    boolean enters = values.isTrue(loop.first, state);
+                    into[state * WORDS + word] = enters ? notes[loop.go * STATES + state] : 0;
+                }
+            }
+        }
+
+        /** At the end of a loop's block a cut run is over. */
+        private void noteSecondCheck(int row) {
+            for (int state = 0; state < STATES; state++) {
+                int failed = steps.find(row, state, 1);
+                notes[row * STATES + state] = failed >= 0 ? 1L << failed : 0;
+            }
+        }
+
+        /** Each row from the last to the first; just before that of a loop, the row behind the loop's first check. */
+        private void sweep(int low, int high, boolean failing) {
+            for (int row = high; row >= low; row--) {
+                Statement s = program.at(row);
+                for (int part = s.isLoop() ? 1 : 0; part >= 0; part--) {
+                    int here = part == 1 ? HEAD_ROW + s.loop : row;
+                    for (int state = 0; state < STATES; state++) {
+                        int failed = steps.find(here, state, 1);
+                        long bits = failing && failed >= 0 ? 1L << failed : 0;
+                        for (int i = 0; i < steps.found; i++) {
+                            bits |= notes[steps.places[i]];
+                        }
+                        notes[here * STATES + state] = bits;
+                    }
+                }
+            }
+        }
+    }
+
+    /** The inductive part of an invariant. Sets of states have a bit for each state. */
+    private static final class Inductive {
+        private final Values values;
+        /** For each state the set of the states in which the block can end. */
+        private final long[] ends;
+        private final long[] outside;
+        private final long[] removed;
+
+        Inductive(Values ofTerms) {
+            values = ofTerms;
+            ends = new long[STATES * WORDS];
+            outside = new long[WORDS];
+            removed = new long[WORDS];
+        }
+
+        /** Returns the number of rounds. */
+        int shrink(int invariant) {
+            begin(invariant);
+            int rounds = 0;
+            while (rounds < STATES && isRoundRemoving()) {
+                rounds++;
+            }
+            return rounds;
+        }
+
+        int statesKept() {
+            int many = STATES;
+            for (int word = 0; word < WORDS; word++) {
+                many -= Long.bitCount(outside[word]);
+            }
+            return many;
+        }
+
+        private void begin(int invariant) {
+            Arrays.fill(outside, 0);
+            for (int state = 0; state < STATES; state++) {
+                if (!values.isTrue(invariant, state)) {
+                    outside[state / WORD] |= 1L << (state % WORD);
+                }
+            }
+        }
+
+        /** Removes the states of a round at the same time; tells whether there were some. */
+        private boolean isRoundRemoving() {
+            Arrays.fill(removed, 0);
+            for (int state = 0; state < STATES; state++) {
+                if (canLeave(state)) {
+                    removed[state / WORD] |= 1L << (state % WORD);
+                }
+            }
+            boolean some = false;
+            for (int word = 0; word < WORDS; word++) {
+                some = some || (removed[word] & ~outside[word]) != 0;
+                outside[word] |= removed[word];
+            }
+            return some;
+        }
+
+        private boolean canLeave(int state) {
+            for (int word = 0; word < WORDS; word++) {
+                if ((ends[state * WORDS + word] & outside[word]) != 0) {
+                    return true;
+                }
+            }
+            return false;
+        }
+    }
+
+    /** What runs and cut runs can do; it is found when it is asked for, and kept until the program changes. */
+    private static final class Runs {
+        private final Program program;
+        private final Values values;
+        private final Walk walk;
+        private final CutRuns cutRuns;
+        private final Inductive inductive;
+        /** The bits of what can happen from each state, in runs and in cut runs. */
+        private final int[] ofRuns;
+        private final int[] ofCutRuns;
+        private boolean knowsRuns;
+        private boolean knowsCutRuns;
+        /** For each loop the number of states in the inductive part of its invariant, and of rounds. */
+        private final boolean[] knowsKept;
+        private final int[] kept;
+        private final int[] rounds;
 
         Runs(Program source) {
             program = source;
             values = new Values(source);
-            steps = new Steps(source, values);
-            notes = new int[ROWS * STATES];
-            outcomes = new int[2 * STATES];
-            known = new boolean[2];
+            Steps steps = new Steps(source, values);
+            long[] notes = new long[PLACES];
+            walk = new Walk(source, steps, notes);
+            cutRuns = new CutRuns(source, values, steps, notes);
+            inductive = new Inductive(values);
+            ofRuns = new int[STATES];
+            ofCutRuns = new int[STATES];
+            knowsKept = new boolean[LOOPS];
+            kept = new int[LOOPS];
+            rounds = new int[LOOPS];
         }
 
         void drop() {
             values.drop();
-            known[0] = false;
-            known[1] = false;
+            walk.drop();
+            knowsRuns = false;
+            knowsCutRuns = false;
+            for (int l = 0; l < LOOPS; l++) {
+                knowsKept[l] = false;
+            }
         }
 
         int statesWith(int term) {
@@ -1218,137 +1531,41 @@ public final class PassiveChecks {
             return many;
         }
 
-        boolean can(int cut, int state, int bit) {
-            return (outcomes[(cut & 1) * STATES + (state & (STATES - 1))] & (1 << bit)) != 0;
-        }
-
         void prepare(int cut) {
-            int which = cut & 1;
-            if (known[which]) {
-                return;
-            }
-            clearNotes();
-            for (int state = 0; state < STATES; state++) {
-                notes[END_ROW * STATES + state] = 1 << ENDING;
-                notes[THROWN_ROW * STATES + state] = 1 << THROWING;
-            }
-            for (int row = program.size - 1; row >= 0; row--) {
-                Statement s = program.at(row);
-                boolean mayGrow = which == 0 && s.isLoop();
-                boolean again = !program.isInLoop(s);
-                for (int n = 0; n < SWEEPS && again; n++) {
-                    again = sweep(row, s.isLoop() ? s.end : row, which) && mayGrow;
-                }
-            }
-            System.arraycopy(notes, program.startRow() * STATES, outcomes, which * STATES, STATES);
-            known[which] = true;
-        }
-
-        private void clearNotes() {
             values.prepare();
-            Arrays.fill(notes, 0);
+            if (cut == 0 && !knowsRuns) {
+                walk.findOutcomes(ofRuns);
+                knowsRuns = true;
+            }
+            if (cut == 1 && !knowsCutRuns) {
+                cutRuns.findOutcomes(ofCutRuns);
+                knowsCutRuns = true;
+            }
         }
 
-        /** Works from the last row to the first, since but for the ends of loops each row leads to later ones. */
-        private boolean sweep(int low, int high, int cut) {
-            boolean changed = false;
-            for (int l = 0; l < program.loops; l++) {
-                int row = program.loopRow(l);
-                if (row >= low && row <= high && refresh(BACK_ROW + l, cut)) {
-                    changed = true;
-                }
-            }
-            for (int row = high; row >= low; row--) {
-                Statement s = program.at(row);
-                if (cut == 1 && s.isLoop() && refresh(HEAD_ROW + s.loop, cut)) {
-                    changed = true;
-                }
-                if (refresh(row, cut)) {
-                    changed = true;
-                }
-            }
-            return changed;
+        boolean can(int cut, int state, int bit) {
+            int[] bits = cut == 0 ? ofRuns : ofCutRuns;
+            return state >= 0 && state < STATES && (bits[state] & (1 << bit)) != 0;
         }
 
-        private boolean refresh(int row, int cut) {
-            boolean changed = false;
-            for (int state = 0; state < STATES; state++) {
-                int failed = steps.find(row, state, cut);
-                int bits = failed >= 0 ? 1 << failed : 0;
-                for (int i = 0; i < steps.found; i++) {
-                    bits |= notes[steps.places[i]];
-                }
-                int place = row * STATES + state;
-                if (notes[place] != bits) {
-                    notes[place] = bits;
-                    changed = true;
-                }
-            }
-            return changed;
-        }
-
-        /** The note of a place is 0 before it is met, and then 2 more than the place that waited before it, or 1. */
         void search(int cut, int state) {
-            clearNotes();
-            int waiting = program.startRow() * STATES + (state & (STATES - 1));
-            notes[waiting] = 1;
-            for (int n = 0; n < ROWS * STATES && waiting >= 0; n++) {
-                int here = waiting;
-                waiting = notes[here] - 2;
-                steps.find(here / STATES, here % STATES, cut);
-                for (int i = 0; i < steps.found; i++) {
-                    int there = steps.places[i];
-                    if (notes[there] == 0) {
-                        notes[there] = waiting + 2;
-                        waiting = there;
-                    }
-                }
-            }
+            values.prepare();
+            walk.mark(cut, state);
         }
 
         boolean isReached(int row, int state) {
-            return notes[row * STATES + state] != 0;
+            return walk.isMarked(row, state);
         }
 
-        /** Leaves the note 0 in the row behind the block for the states kept; returns the number of rounds. */
-        int shrink(int l) {
-            clearNotes();
-            Statement loop = program.loopStatement(l);
-            int behind = (BACK_ROW + l) * STATES;
-            for (int state = 0; state < STATES; state++) {
-                notes[behind + state] = values.isTrue(loop.second, state) ? 0 : 1 << LEAVING;
+        void prepareLoop(int l) {
+            values.prepare();
+            if (l < 0 || l >= LOOPS || knowsKept[l]) {
+                return;
             }
-            int rounds = 0;
-            for (int n = 0; n <= STATES; n++) {
-                sweep(program.loopRow(l) + 1, loop.end, 1);
-                if (!removeLeaving(loop, behind)) {
-                    break;
-                }
-                rounds++;
-            }
-            return rounds;
-        }
-
-        private boolean removeLeaving(Statement loop, int behind) {
-            boolean removed = false;
-            for (int state = 0; state < STATES; state++) {
-                boolean leaves = (notes[loop.go * STATES + state] & (1 << LEAVING)) != 0;
-                if (leaves && notes[behind + state] == 0 && values.isTrue(loop.first, state)) {
-                    notes[behind + state] = 1 << LEAVING;
-                    removed = true;
-                }
-            }
-            return removed;
-        }
-
-        int statesKept(int l) {
-            int many = 0;
-            for (int state = 0; state < STATES; state++) {
-                if (!isReached(BACK_ROW + l, state)) {
-                    many++;
-                }
-            }
-            return many;
+            cutRuns.findEnds(l, inductive.ends);
+            rounds[l] = inductive.shrink(program.loopStatement(l).second);
+            kept[l] = inductive.statesKept();
+            knowsKept[l] = true;
         }
     }
 

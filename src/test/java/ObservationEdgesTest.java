@@ -225,6 +225,7 @@ public final class ObservationEdgesTest {
         asked("=a0", 64, 1);
         asked("&=a0=b0", 16, 2);
         asked("&!a&!b!c", 4, 3);
+        asked("&!a&!b&!c<d2", 2, 3);
         asked("!d", 64, 0);
         asked("|!a&<a2!b", 80, 2);
         asked("=ab", 64, 0);
@@ -241,6 +242,13 @@ public final class ObservationEdgesTest {
         asked("&!a&<b2&<c2<d2", 8, 1);
         asked("&!a&!b&<c3<d3", 9, 2);
         Check.due("ask() of a new object", new PassiveChecks().ask(), 0);
+        PassiveChecks x = Check.with("s!a", 1);
+        Check.due("sees(16, 1)", x.sees(16, 1), 1);
+        Check.due("ask() before starts()", x.ask(), 1);
+        Check.change(x, "s0", 1);
+        Check.due("ask() before starts()", x.ask(), NONE);
+        Check.due("undo()", x.undo(), 1);
+        Check.due("ask() before starts()", x.ask(), 1);
     }
 
     // ---- promises 23 and 24

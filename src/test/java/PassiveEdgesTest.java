@@ -194,6 +194,10 @@ public final class PassiveEdgesTest {
         form("y(i0(t)(i0(ha t)(t)))()", 7, "2000", 3, 9 + 9);
         form("y(i0(t)(i0(t)(i0(hd t)(t))))()", 9, "0002", 4, 12 + 12);
         form("hc y(i0(t)(t))()", 5, "0010", 0, 6);
+        form("y(i0(ha t)(t))()y(i0(t)(t))()", 9, "2000", 2, 6 + 6 + 5);
+        form("y(i0(y(t)())(t)t)(ha)", 7, "1000", 0, 8);
+        form("y(i0(t)(y(hb t)(hc)))(i0()(ha))", 9, "3220", 8, 1 + 2 + 1 + 1 + 1 + 1 + 1 + 2 + 1 + 24);
+        form("y(w01(y(ha t)())i0(t)(hb t))(hc)", 10, "2210", 2, 1 + 5 + 3 + 2 + 1 + 2 + 1 + 6);
     }
 
     private static void sameVersionKept() {

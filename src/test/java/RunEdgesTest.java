@@ -278,6 +278,63 @@ public final class RunEdgesTest {
         keeps("w1 1(w1 !b(hb) t)", 4, 1, 0, 1);
     }
 
+    private static void keepsAfterOtherQuestions() {
+        Check.sentence("promise 14: whatever was asked before, and of each loop");
+        PassiveChecks x = Check.with("y(w1 <1b(t))(k0)", 4);
+        wrong(x, 1, 2, 128, 32);
+        from(x, 0, 32, 2, 0, 0);
+        Check.due("keeps(0, 0)", x.keeps(0, 0), 128);
+        Check.due("keeps(0, 1)", x.keeps(0, 1), 0);
+        PassiveChecks y = Check.with("w1 <1b(t)", 2);
+        wrong(y, 1, 0, 128, 0);
+        Check.due("keeps(0, 0)", y.keeps(0, 0), 128);
+        wrong(y, 1, 0, 128, 0);
+        PassiveChecks z = Check.with("w1 a(a0)w1 <a3(a+a1)w0 b()w1 !c(c=d1)", 7);
+        int[] states = {0, 0, 192, 48};
+        int[] rounds = {1, 3, 0, 1};
+        for (int l = 3; l >= 0; l--) {
+            Check.due("keeps(" + l + ", 0)", z.keeps(l, 0), states[l]);
+        }
+        for (int l = 0; l < 4; l++) {
+            Check.due("keeps(" + l + ", 1)", z.keeps(l, 1), rounds[l]);
+            Check.due("keeps(" + l + ", 0)", z.keeps(l, 0), states[l]);
+        }
+        for (int l = 0; l < 4; l++) {
+            Check.invariant(z, l, "d", 1);
+            Check.due("keeps(" + l + ", 0) of another invariant", z.keeps(l, 0), 192);
+            Check.due("undo()", z.undo(), 1);
+            Check.due("keeps(" + l + ", 0) of the first one", z.keeps(l, 0), states[l]);
+        }
+    }
+
+    // ---- changes
+
+    private static void askedAfterChanges() {
+        Check.sentence("promises 10 to 14: of the program that is present when it is asked");
+        PassiveChecks x = Check.with("a1", 1);
+        ends(x, 0, 5, 0, 69);
+        Check.change(x, "a2", 1);
+        ends(x, 0, 5, 0, 133);
+        Check.due("keep(0)", x.keep(0), 1);
+        Check.due("undo()", x.undo(), 1);
+        ends(x, 0, 5, 0, 69);
+        Check.due("back(0)", x.back(0), 1);
+        ends(x, 0, 5, 0, 133);
+        ends(x, 1, 5, 0, 133);
+        ends(x, 1, 6, 0, 134);
+        from(x, 0, 6, NONE, 1, 0);
+        ends(x, 1, 6, 0, 134);
+        Check.change(x, "w1 a(t)", 2);
+        ends(x, 1, 64, 1, 64);
+        wrong(x, 1, 0, 64, 0);
+        Check.due("spurious(0)", x.spurious(0), 64);
+        Check.invariant(x, 0, "b", 1);
+        ends(x, 1, 64, 1);
+        wrong(x, 1, 0, 64, 0);
+        Check.due("from(1, 16, 2)", x.from(1, 16, 2), 1);
+        Check.due("from(1, 64, 2)", x.from(1, 64, 2), 0);
+    }
+
     // ---- RUNS
 
     private static void failedRunIsOver() {
@@ -353,6 +410,31 @@ public final class RunEdgesTest {
         PassiveChecks fails = Check.with("w1 1(k!" + LAST + "d+d1id()(c+c1ic()(b+b1ib()(a+a1))))", 9);
         wrong(fails, 0, 2, 256, 0);
         from(fails, 0, 0, 2, 0, 0);
+    }
+
+    /** What can happen from one state of a loop can happen from each state that leads to it, round after round. */
+    private static void circles() {
+        Check.sentence("RUNS: as long as the first term is true, in states that lead to one another");
+        PassiveChecks x = Check.with("w1 1(hb i=b0(k!=a1)()a+a1)", 5);
+        wrong(x, 0, 2, 256, 0);
+        PassiveChecks y = Check.with("w!=b3 1(hb a+a1)", 3);
+        ends(y, 0, 1, 0, 49, 113, 177, 241);
+        ends(y, 0, 113, 0, 113);
+        for (int state = 0; state < 256; state++) {
+            Check.due("from(0, " + state + ", 1)", y.from(0, state, 1), 1);
+        }
+        PassiveChecks nested = Check.with("w1 1(w!=c3 1(hc a+a1 ib()(i=a2(t)())))", 7);
+        Check.due("sees(17, 1)", nested.sees(17, 1), 1);
+        Check.due("starts(0)", nested.starts(0), 48);
+        from(nested, 0, 0, NONE, 0, 1);
+        from(nested, 0, 12, NONE, 0, 0);
+        from(nested, 0, 16, NONE, 0, 0);
+        PassiveChecks two = Check.with("w!=a3 1(ha w!=b3 1(hb k!&=a1=b2))k=a3 k=b0", 7);
+        wrong(two, 0, 4, 144, 0);
+        wrong(two, 0, 5, 0, NONE);
+        wrong(two, 0, 6, 240, 0);
+        PassiveChecks caught = Check.with("w1 1(y(hd i=d2(t)(c+c1))(i=c3(k0)(hc)))", 9);
+        wrong(caught, 0, 2, 256, 0);
     }
 
     private static void loopNotEntered() {
@@ -464,9 +546,31 @@ public final class RunEdgesTest {
         ends(Check.with("w0 1(t a0)", 3), 1, 77, 0, 13, 77, 141, 205);
         ends(Check.with("w0 1(y(i0(p1cc)())())", 4), 1, 0, 0, 0, 4, 8, 12);
         ends(Check.with("w0 1(y()(w0 0(c0)))", 4), 1, 0, 0, 0, 4, 8, 12);
+        ends(Check.with("w0 1(ha hc)", 3), 1, 17, 0,
+            17, 21, 25, 29, 81, 85, 89, 93, 145, 149, 153, 157, 209, 213, 217, 221);
+        for (int set = 0; set < 16; set++) {
+            PassiveChecks any = Check.with("w0 1(" + havocs(set) + ")", 1 + Integer.bitCount(set));
+            Check.due("ends(1, 0, 0, -1)", any.ends(1, 0, 0, -1), 1 << 2 * Integer.bitCount(set));
+            Check.due("ends(1, 255, 0, 0)", any.ends(1, 255, 0, 0), 255 - 3 * spread(set));
+        }
         PassiveChecks x = Check.with("w0 1(" + ALL_ANY + ")k!" + LAST, 6);
         wrong(x, 1, 2, 256, 0);
         wrong(x, 0, 2, 1, 255);
+    }
+
+    private static String havocs(int set) {
+        StringBuilder block = new StringBuilder();
+        for (int v = 0; v < 4; v++) {
+            if ((set >> v & 1) == 1) {
+                block.append('h').append((char) ('a' + v));
+            }
+        }
+        return block.toString();
+    }
+
+    /** The state in which the variables of the set are 1. */
+    private static int spread(int set) {
+        return 64 * (set & 1) + 16 * (set >> 1 & 1) + 4 * (set >> 2 & 1) + (set >> 3 & 1);
     }
 
     private static void cutBlocked() {
@@ -502,6 +606,16 @@ public final class RunEdgesTest {
         PassiveChecks inner = Check.with("w1 !a(w0 1(ha))", 3);
         wrong(inner, 1, 1, 64, 0);
         wrong(inner, 1, 3, 0, NONE);
+        PassiveChecks four = Check.with("w=a3!=a2(a2)w=b3!=b2(b2)w=c3!=c2(c2)w=d3!=d2(d2)", 8);
+        int[] many = {64, 192, 48, 144, 36, 108, 27, 81};
+        int[] lowest = {128, 0, 32, 0, 8, 0, 2, 0};
+        for (int check = 0; check < 8; check++) {
+            wrong(four, 1, check, many[check], lowest[check]);
+        }
+        PassiveChecks nested = Check.with("w1 1(w1 a(a0))", 3);
+        wrong(nested, 1, 1, 0, NONE);
+        wrong(nested, 1, 2, 256, 0);
+        wrong(nested, 1, 3, 256, 0);
     }
 
     private static void cutThrow() {
@@ -536,11 +650,14 @@ public final class RunEdgesTest {
         keepsRounds();
         keepsOnlyThoseAtTheEnd();
         keepsCutRuns();
+        keepsAfterOtherQuestions();
+        askedAfterChanges();
         failedRunIsOver();
         blockedRunIsOver();
         assignmentAndHavoc();
         calls();
         endlessLoop();
+        circles();
         loopNotEntered();
         invariantOfRuns();
         tries();

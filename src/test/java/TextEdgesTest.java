@@ -178,6 +178,28 @@ public final class TextEdgesTest {
         Check.due("loop(0, 0)", x.loop(0, 0), BAD);
         Check.due("wrong(0, 0, 0)", x.wrong(0, 0, 0), 64);
         Check.due("starts(0)", x.starts(0), 256);
+        Check.change(x, "w0 1(ha hb)", 3);
+        Check.change(x, "w0 1(hc)", 2);
+        Check.due("loop(0, 1)", x.loop(0, 1), 4);
+        Check.due("ends(1, 0, 0, -1)", x.ends(1, 0, 0, -1), 4);
+        Check.change(x, "w0 1()", 1);
+        Check.due("loop(0, 1)", x.loop(0, 1), 0);
+        Check.due("ends(1, 0, 0, -1)", x.ends(1, 0, 0, -1), 1);
+    }
+
+    private static void openBlocksForgotten() {
+        Check.sentence("promise 4: what a text with an error leaves open does not matter");
+        PassiveChecks x = Check.with("w00(w00(", -18);
+        Check.due("clear()", x.clear(), 8);
+        Check.change(x, "w00(w00(t))t", 4);
+        Check.change(x, "y(i0()(", -17);
+        Check.due("clear()", x.clear(), 7);
+        Check.change(x, "t)", -11);
+        Check.due("clear()", x.clear(), 2);
+        Check.change(x, "k1".repeat(16) + "w", -42);
+        Check.due("clear()", x.clear(), 33);
+        Check.change(x, "w00(w00())w00(w00(k1k1k1k1k1k1k1k1))", 12);
+        Check.due("count(1)", x.count(1), 16);
     }
 
     private static void sixChanges() {
@@ -590,6 +612,7 @@ public final class TextEdgesTest {
         statementsReturned();
         programEmptiesText();
         programReplaces();
+        openBlocksForgotten();
         sixChanges();
         seventhChanges();
         observationsAndSavedStay();
