@@ -1206,7 +1206,7 @@ public final class PassiveChecks {
             marked = NOWHERE;
         }
 
-        private void clear() {
+        private void startAgain() {
             Arrays.fill(number, 0, program.size * STATES, 0);
             Arrays.fill(number, END_ROW * STATES, PLACES, 0);
             met = 0;
@@ -1216,7 +1216,7 @@ public final class PassiveChecks {
 
         /** Puts what can happen in runs from each state. */
         void findOutcomes(int[] into) {
-            clear();
+            startAgain();
             for (int state = 0; state < STATES; state++) {
                 int place = program.startRow() * STATES + state;
                 goFrom(place);
@@ -1305,7 +1305,7 @@ public final class PassiveChecks {
             if (marked == which) {
                 return;
             }
-            clear();
+            startAgain();
             int waiting = program.startRow() * STATES + (state & (STATES - 1));
             number[waiting] = 1;
             below[waiting] = NOWHERE;
@@ -1345,14 +1345,14 @@ public final class PassiveChecks {
             notes = shared;
         }
 
-        private void clear() {
+        private void clearNotes() {
             Arrays.fill(notes, 0, program.size * STATES, 0);
             Arrays.fill(notes, END_ROW * STATES, PLACES, 0);
         }
 
         /** Puts what can happen in cut runs from each state. */
         void findOutcomes(int[] into) {
-            clear();
+            clearNotes();
             for (int state = 0; state < STATES; state++) {
                 notes[END_ROW * STATES + state] = 1L << ENDING;
                 notes[THROWN_ROW * STATES + state] = 1L << THROWING;
@@ -1368,7 +1368,7 @@ public final class PassiveChecks {
 
         /** Puts in which states a loop's block can end, a bit for each, from the states that enter the block. */
         void findEnds(int l, long[] into) {
-            clear();
+            clearNotes();
             Statement loop = program.loopStatement(l);
             int behind = (BACK_ROW + l) * STATES;
             for (int word = 0; word < WORDS; word++) {

@@ -197,6 +197,8 @@ public final class PassiveEdgesTest {
         form("y(i0(ha t)(t))()y(i0(t)(t))()", 9, "2000", 2, 6 + 6 + 5);
         form("y(i0(y(t)())(t)t)(ha)", 7, "1000", 0, 8);
         form("y(i0(t)(y(hb t)(hc)))(i0()(ha))", 9, "3220", 8, 1 + 2 + 1 + 1 + 1 + 1 + 1 + 2 + 1 + 24);
+        form("y(i0(ha t)()y(t)(y(t)(k1))t)(hb)", 11, "2100", 2, 13 + 6);
+        form("y(i0(y(t)(k1))(ha t)t)(hb)", 9, "2100", 2, 11 + 6);
         form("y(w01(y(ha t)())i0(t)(hb t))(hc)", 10, "2210", 2, 1 + 5 + 3 + 2 + 1 + 2 + 1 + 6);
     }
 

@@ -6,7 +6,7 @@ import java.util.List;
  * made alike; then both must answer all the same: what is asked, and what changes, undoing and restoring lead to.
  */
 public final class RefusalsTest {
-    private static final int BAD = -1, STATE = -2, FULL = -3;
+    private static final int BAD = -1, STATE = -2, FULL = -3, NONE = -9;
     private static final int LOW = Integer.MIN_VALUE, HIGH = Integer.MAX_VALUE;
     private static final int[] NO_FLAGS = {-1, 2, LOW, HIGH};
     private static final int LEAST_ERROR = -130, GREATEST_ERROR = -10;
@@ -284,12 +284,56 @@ public final class RefusalsTest {
         }
     }
 
+    private static void noneOnlyWithoutError() {
+        Check.sentence("ERRORS: NONE is no error; it is returned only if no error applies");
+        PassiveChecks x = Check.with("s0", 1);
+        Check.due("told(2)", x.told(2), NONE);
+        Check.due("told(-2)", x.told(-2), BAD);
+        Check.due("from(0, 0, 0)", x.from(0, 0, 0), NONE);
+        Check.due("from(2, 0, 0)", x.from(2, 0, 0), BAD);
+        Check.due("from(0, 256, 0)", x.from(0, 256, 0), BAD);
+        Check.due("ends(0, 0, 0, 0)", x.ends(0, 0, 0, 0), NONE);
+        Check.due("ends(0, 0, 2, 0)", x.ends(0, 0, 2, 0), BAD);
+        Check.due("sees(16, 1)", x.sees(16, 1), 1);
+        Check.due("starts(1)", x.starts(1), NONE);
+        Check.due("starts(2)", x.starts(2), BAD);
+        Check.due("ask()", x.ask(), NONE);
+        Check.change(x, "k1", 1);
+        Check.due("wrong(0, 0, 1)", x.wrong(0, 0, 1), NONE);
+        Check.due("wrong(0, 1, 1)", x.wrong(0, 1, 1), BAD);
+        Check.due("wrong(0, 0, 2)", x.wrong(0, 0, 2), BAD);
+    }
+
+    private static void numberedFromZero() {
+        Check.sentence("ERRORS: everything is numbered from 0");
+        PassiveChecks x = Check.with("w0 0(ka)", 2);
+        Check.due("told(0)", x.told(0), 'w');
+        Check.due("loop(0, 0)", x.loop(0, 0), 0);
+        Check.due("kind(0)", x.kind(0), 1);
+        Check.due("kind(2)", x.kind(2), 0);
+        Check.due("kind(3)", x.kind(3), BAD);
+        Check.due("loop(1, 0)", x.loop(1, 0), BAD);
+        Check.due("ends(0, 7, 0, 0)", x.ends(0, 7, 0, 0), 7);
+        Check.due("ends(0, 7, 0, 1)", x.ends(0, 7, 0, 1), NONE);
+        Check.due("keep(0)", x.keep(0), 2);
+        Check.change(x, "da", 1);
+        Check.due("versions(3)", x.versions(3), 1);
+        Check.due("program() with an error at the first character", errorAtFirst(x), -10);
+    }
+
+    private static int errorAtFirst(PassiveChecks x) {
+        Check.type(x, "1");
+        return x.program();
+    }
+
     public static void main(String[] args) {
         ofNewObject();
         ofRichObject();
         ofFullObject();
         ofRestoredObject();
         askingChangesNothing();
+        noneOnlyWithoutError();
+        numberedFromZero();
         Check.finish();
     }
 }

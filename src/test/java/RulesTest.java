@@ -46,8 +46,7 @@ public final class RulesTest {
             }
         }
         Check.due("methods " + got, got.equals(due) ? 1 : 0, 1);
-        for (String call : FACE) {
-            String name = call.substring(call.indexOf(' ') + 1, call.indexOf('('));
+        for (String name : namesOfFace()) {
             Check.due("private methods named " + name, hidden.contains(name) ? 1 : 0, 0);
         }
         Constructor<?>[] made = PassiveChecks.class.getDeclaredConstructors();
@@ -76,6 +75,14 @@ public final class RulesTest {
         Check.due("NONE", PassiveChecks.NONE, -9);
     }
 
+    private static Set<String> namesOfFace() {
+        Set<String> names = new TreeSet<>();
+        for (String call : FACE) {
+            names.add(call.substring(call.indexOf(' ') + 1, call.indexOf('(')));
+        }
+        return names;
+    }
+
     private static void classesInside() {
         Check.in("classes inside");
         Class<?>[] inside = PassiveChecks.class.getDeclaredClasses();
@@ -83,6 +90,9 @@ public final class RulesTest {
         for (Class<?> one : inside) {
             Check.due(one + " is static", one.getModifiers() & Modifier.STATIC, Modifier.STATIC);
             Check.due(one + " is not seen", one.getModifiers() & (Modifier.PUBLIC | Modifier.PROTECTED), 0);
+            for (Method method : one.getDeclaredMethods()) {
+                Check.due(method + " has a name of its own", namesOfFace().contains(method.getName()) ? 1 : 0, 0);
+            }
             int own = 0;
             for (Field field : one.getDeclaredFields()) {
                 boolean isStatic = Modifier.isStatic(field.getModifiers());

@@ -333,6 +333,12 @@ public final class RunEdgesTest {
         wrong(x, 1, 0, 64, 0);
         Check.due("from(1, 16, 2)", x.from(1, 16, 2), 1);
         Check.due("from(1, 64, 2)", x.from(1, 64, 2), 0);
+        PassiveChecks y = Check.with("w1 a(ha)", 2);
+        wrong(y, 1, 0, 64, 0);
+        wrong(y, 1, 1, 192, 64);
+        wrong(y, 0, 0, 0, NONE);
+        wrong(y, 0, 1, 0, NONE);
+        wrong(y, 1, 1, 192, 64);
     }
 
     // ---- RUNS
@@ -435,6 +441,19 @@ public final class RunEdgesTest {
         wrong(two, 0, 6, 240, 0);
         PassiveChecks caught = Check.with("w1 1(y(hd i=d2(t)(c+c1))(i=c3(k0)(hc)))", 9);
         wrong(caught, 0, 2, 256, 0);
+        PassiveChecks later = Check.with("w1 1(i=a0(hb)()ib(k0)()a+a1)", 6);
+        wrong(later, 0, 2, 256, 0);
+        PassiveChecks inner = Check.with("w1 1(i=a0(hc)()ic(t)()w!=d0 1(d+d1)a+a1)", 8);
+        Check.due("sees(17, 1)", inner.sees(17, 1), 1);
+        Check.due("starts(0)", inner.starts(0), 256);
+        PassiveChecks apart = Check.with("w1 1(i=a0(i=b0(hb)())()i&=b2=a1(k0)()a+a1)", 7);
+        wrong(apart, 0, 2, 128, 0);
+        from(apart, 0, 64, 2, 0, 0);
+        from(apart, 0, 80, NONE, 0, 0);
+        PassiveChecks leading = Check.with("w1 1(i=a0(i=b1(hb)())()i=b2(k0)()a+a1)", 7);
+        wrong(leading, 0, 2, 128, 16);
+        from(leading, 0, 80, 2, 0, 0);
+        from(leading, 0, 64, NONE, 0, 0);
     }
 
     private static void loopNotEntered() {
