@@ -1174,7 +1174,7 @@ public final class PassiveChecks {
     /** Runs, forward, from place to place. */
     private static final class Walk {
         private static final int NOWHERE = -1;
-        private static final int CLOSED = Integer.MAX_VALUE;
+        private static final int CLOSED = PLACES + 1;
 
         private final Program program;
         private final Steps steps;
